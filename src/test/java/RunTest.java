@@ -106,6 +106,9 @@ public final class RunTest {
         t.setRegister(4, 6);
         t.run(1);
         Due.due("LOAD into its own y", t.register(4), 208);
+        Due.stands("LOAD into its own y", t, 1, TraceFrontEnd.RUNNING);
+        t.setRegister(4, 104);
+        Due.stillMarked("LOAD into its own y", t);
     }
 
     private static void stores() {
@@ -127,6 +130,19 @@ public final class RunTest {
         t.setRegister(4, 6);
         t.run(1);
         Due.due("STORE of its own y", t.memory(8), 6);
+
+        // The values that a branch would look at move the place in no other instruction.
+        for (int value : new int[] {0, -1}) {
+            t = new TraceFrontEnd();
+            t.emit(TraceFrontEnd.STORE, 1, 5, 0);
+            t.emit(TraceFrontEnd.LOAD, 2, 5, 0);
+            t.emit(TraceFrontEnd.ADDI, 3, 5, value);
+            t.setRegister(1, value);
+            for (int i = 1; i <= 3; i++) {
+                t.run(1);
+                Due.stands("step " + i + " with " + value, t, i, TraceFrontEnd.RUNNING);
+            }
+        }
     }
 
     private static void branches() {
