@@ -1,30 +1,52 @@
 /** Promise 12: clear. */
 public final class ClearTest {
     public static void main(String[] args) {
-        TraceFrontEnd fresh = new TraceFrontEnd();
-        fresh.clear();
-        isAsNew("new", fresh);
-
-        TraceFrontEnd running = filled();
-        running.run(1);
-        Due.stands("before clear", running, 1, TraceFrontEnd.RUNNING);
-        running.clear();
-        isAsNew("running", running);
-
-        TraceFrontEnd halted = filled();
-        halted.run(150);
-        Due.stands("before clear", halted, 1, TraceFrontEnd.HALTED);
-        halted.clear();
-        isAsNew("halted", halted);
-
-        TraceFrontEnd out = filled();
-        out.amend(0, 2);
-        out.run(150);
-        Due.stands("before clear", out, 24, TraceFrontEnd.OUT);
-        out.clear();
-        isAsNew("out", out);
-        isAsNew("cleared before", out);
+        ofANewObject();
+        ofAFullProgramRunning();
+        ofAFullProgramHalted();
+        ofAFullProgramOut();
+        ofAShortProgram();
         Due.finish();
+    }
+
+    private static void ofANewObject() {
+        TraceFrontEnd t = new TraceFrontEnd();
+        t.clear();
+        isAsNew("new", t);
+    }
+
+    private static void ofAFullProgramRunning() {
+        TraceFrontEnd t = filled();
+        t.run(1);
+        Due.stands("before clear", t, 1, TraceFrontEnd.RUNNING);
+        t.clear();
+        isAsNew("full and running", t);
+    }
+
+    private static void ofAFullProgramHalted() {
+        TraceFrontEnd t = filled();
+        t.run(150);
+        Due.stands("before clear", t, 1, TraceFrontEnd.HALTED);
+        t.clear();
+        isAsNew("full and halted", t);
+    }
+
+    private static void ofAFullProgramOut() {
+        TraceFrontEnd t = filled();
+        t.amend(0, 2);
+        t.run(150);
+        Due.stands("before clear", t, 24, TraceFrontEnd.OUT);
+        t.clear();
+        isAsNew("full and out", t);
+        isAsNew("cleared before", t);
+    }
+
+    private static void ofAShortProgram() {
+        for (int status : Due.STATUSES) {
+            TraceFrontEnd t = Due.markedIn(status);
+            t.clear();
+            isAsNew("short, in status " + status, t);
+        }
     }
 
     private static TraceFrontEnd filled() {

@@ -65,6 +65,27 @@ final class Due {
         }
     }
 
+    static final int[] STATUSES = {TraceFrontEnd.RUNNING, TraceFrontEnd.HALTED, TraceFrontEnd.OUT};
+
+    /** A marked object of two instructions that has come to the status, at a place other than 0. */
+    static TraceFrontEnd markedIn(int status) {
+        TraceFrontEnd t = new TraceFrontEnd();
+        t.emit(TraceFrontEnd.JMP, placeIn(status), 0, 0);
+        t.emit(TraceFrontEnd.HALT, 0, 0, 0);
+        mark(t);
+        t.run(status == TraceFrontEnd.RUNNING ? 1 : 2);
+        return t;
+    }
+
+    static int placeIn(int status) {
+        return status == TraceFrontEnd.OUT ? 9 : 1;
+    }
+
+    static void stillMarkedIn(int status, String when, TraceFrontEnd t) {
+        stands(when + " in status " + status, t, placeIn(status), status);
+        stillMarked(when + " in status " + status, t);
+    }
+
     static void finish() {
         if (wrong > SHOWN) {
             System.out.println(".. " + (wrong - SHOWN) + " more ..");

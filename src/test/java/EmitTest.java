@@ -6,17 +6,32 @@ public final class EmitTest {
     private static final int[] NO_TARGET = {-1, 24, 25, MIN, MAX};
     private static final int[] ANY = {0, -1, 7, 8, 23, 24, MIN, MAX};
 
+    /** One call for each reason to answer BAD, each operand on both sides. */
+    private static final int[][] BAD_ONES = {
+        {-1, 0, 0, 0}, {11, 0, 0, 0},
+        {TraceFrontEnd.ADD, -1, 0, 0}, {TraceFrontEnd.ADD, 0, 8, 0}, {TraceFrontEnd.SUB, 0, 0, -1},
+        {TraceFrontEnd.XOR, 8, 0, 0}, {TraceFrontEnd.LESS, 0, -1, 0}, {TraceFrontEnd.LESS, 0, 0, 8},
+        {TraceFrontEnd.ADDI, -1, 0, 0}, {TraceFrontEnd.ADDI, 0, 8, 0},
+        {TraceFrontEnd.LOAD, 8, 0, 0}, {TraceFrontEnd.LOAD, 0, -1, 0},
+        {TraceFrontEnd.STORE, 8, 0, 0}, {TraceFrontEnd.STORE, 0, 8, 0},
+        {TraceFrontEnd.BZ, 8, 0, 0}, {TraceFrontEnd.BZ, 0, -1, 0}, {TraceFrontEnd.BZ, 0, 24, 0},
+        {TraceFrontEnd.BN, -1, 0, 0}, {TraceFrontEnd.BN, 0, -1, 0}, {TraceFrontEnd.BN, 0, 24, 0},
+        {TraceFrontEnd.JMP, -1, 0, 0}, {TraceFrontEnd.JMP, 24, 0, 0}};
+
     public static void main(String[] args) {
         countsUp();
         fullComesFirst();
+        oneBelowFullIsNotFull();
         unknownOps();
         threeRegisters();
         twoRegistersAndNumber();
         branches();
         jump();
         haltHasNothing();
+        nothingUnusedPlaysAPart();
         refusedAddsNothing();
         stateStays();
+        outStaysOutWhenTheProgramGrows();
         Due.finish();
     }
 
@@ -34,17 +49,35 @@ public final class EmitTest {
         Due.due("emit number 26", t.emit(TraceFrontEnd.HALT, 0, 0, 0), TraceFrontEnd.FULL);
     }
 
-    private static void fullComesFirst() {
+    private static TraceFrontEnd counting(int length) {
         TraceFrontEnd t = new TraceFrontEnd();
-        for (int i = 0; i < 24; i++) {
+        for (int i = 0; i < length; i++) {
             t.emit(TraceFrontEnd.ADDI, 1, 1, 1);
         }
-        Due.due("full: emit(11)", t.emit(11, 0, 0, 0), TraceFrontEnd.FULL);
-        Due.due("full: emit(-1)", t.emit(-1, 0, 0, 0), TraceFrontEnd.FULL);
-        Due.due("full: emit(ADD, 8)", t.emit(TraceFrontEnd.ADD, 8, 0, 0), TraceFrontEnd.FULL);
+        return t;
+    }
+
+    private static void fullComesFirst() {
+        TraceFrontEnd t = counting(24);
+        for (int[] bad : BAD_ONES) {
+            Due.due("full: emit(" + bad[0] + ", ..)", t.emit(bad[0], bad[1], bad[2], bad[3]), TraceFrontEnd.FULL);
+        }
+        for (int op = TraceFrontEnd.ADD; op <= TraceFrontEnd.HALT; op++) {
+            Due.due("full: emit(" + op + ", 1, 2, 3)", t.emit(op, 1, 2, 3), TraceFrontEnd.FULL);
+        }
         Due.due("full: run(150)", t.run(150), 24);
         Due.due("full: register(1)", t.register(1), 24);
         Due.stands("full, run", t, 24, TraceFrontEnd.OUT);
+    }
+
+    private static void oneBelowFullIsNotFull() {
+        TraceFrontEnd t = counting(23);
+        for (int[] bad : BAD_ONES) {
+            Due.due("23 there: emit(" + bad[0] + ", ..)", t.emit(bad[0], bad[1], bad[2], bad[3]), TraceFrontEnd.BAD);
+        }
+        Due.due("23 there: emit(ADDI)", t.emit(TraceFrontEnd.ADDI, 1, 1, 10), 24);
+        Due.due("24 there: run(150)", t.run(150), 24);
+        Due.due("24 there: register(1)", t.register(1), 33);
     }
 
     private static void unknownOps() {
@@ -125,12 +158,25 @@ public final class EmitTest {
         }
     }
 
+    private static void nothingUnusedPlaysAPart() {
+        for (int one : ANY) {
+            for (int other : ANY) {
+                emits(TraceFrontEnd.JMP, 0, one, other, 1);
+                emits(TraceFrontEnd.HALT, one, other, one, 1);
+                // Good operands where there are none do not mend the one that is bad.
+                emits(TraceFrontEnd.JMP, 24, one, other, TraceFrontEnd.BAD);
+                emits(11, one, other, one, TraceFrontEnd.BAD);
+            }
+            emits(TraceFrontEnd.BZ, 8, 0, one, TraceFrontEnd.BAD);
+            emits(TraceFrontEnd.BN, 0, 24, one, TraceFrontEnd.BAD);
+        }
+    }
+
     private static void refusedAddsNothing() {
-        TraceFrontEnd t = new TraceFrontEnd();
-        t.emit(TraceFrontEnd.ADDI, 1, 1, 1);
-        t.emit(TraceFrontEnd.ADDI, 8, 1, 1);
-        t.emit(99, 1, 1, 1);
-        t.emit(TraceFrontEnd.JMP, 24, 0, 0);
+        TraceFrontEnd t = counting(1);
+        for (int[] bad : BAD_ONES) {
+            t.emit(bad[0], bad[1], bad[2], bad[3]);
+        }
         Due.due("after refusals: amend(1, 0)", t.amend(1, 0), TraceFrontEnd.BAD);
         Due.due("after refusals: emit(ADDI)", t.emit(TraceFrontEnd.ADDI, 1, 1, 10), 2);
         Due.due("after refusals: run(150)", t.run(150), 2);
@@ -138,27 +184,45 @@ public final class EmitTest {
     }
 
     private static void stateStays() {
-        TraceFrontEnd t = new TraceFrontEnd();
-        Due.mark(t);
-        t.emit(TraceFrontEnd.BZ, 0, 0, 0);
-        t.emit(TraceFrontEnd.HALT, 0, 0, 0);
-        t.run(1);
-        emitsAllAndStays("running", t, 1, TraceFrontEnd.RUNNING);
-        t.run(1);
-        emitsAllAndStays("halted", t, 1, TraceFrontEnd.HALTED);
-
-        t = new TraceFrontEnd();
-        Due.mark(t);
-        t.run(1);
-        emitsAllAndStays("out", t, 0, TraceFrontEnd.OUT);
-        Due.due("out: run(150)", t.run(150), 0);
+        for (int status : Due.STATUSES) {
+            acceptedKeepsTheState(status);
+            badKeepsTheState(status);
+            fullKeepsTheState(status);
+        }
     }
 
-    private static void emitsAllAndStays(String when, TraceFrontEnd t, int place, int status) {
-        for (int op = -1; op <= 11; op++) {
-            t.emit(op, 1, 2, 3);
+    private static void acceptedKeepsTheState(int status) {
+        TraceFrontEnd t = Due.markedIn(status);
+        for (int op = TraceFrontEnd.ADD; op <= TraceFrontEnd.HALT; op++) {
+            Due.due("emit(" + op + ", 1, 2, 3) in status " + status, t.emit(op, 1, 2, 3), 3 + op);
         }
-        Due.stillMarked("emit while " + when, t);
-        Due.stands("emit while " + when, t, place, status);
+        Due.stillMarkedIn(status, "emit", t);
+    }
+
+    private static void badKeepsTheState(int status) {
+        TraceFrontEnd t = Due.markedIn(status);
+        for (int[] bad : BAD_ONES) {
+            Due.due("bad emit in status " + status, t.emit(bad[0], bad[1], bad[2], bad[3]), TraceFrontEnd.BAD);
+        }
+        Due.stillMarkedIn(status, "bad emit", t);
+    }
+
+    private static void fullKeepsTheState(int status) {
+        TraceFrontEnd t = Due.markedIn(status);
+        for (int i = 2; i < 24; i++) {
+            t.emit(TraceFrontEnd.ADDI, 1, 1, 1);
+        }
+        Due.due("full: emit in status " + status, t.emit(TraceFrontEnd.ADDI, 1, 1, 1), TraceFrontEnd.FULL);
+        Due.stillMarkedIn(status, "emit when full", t);
+    }
+
+    // The place that was outside the program is an instruction's number now; that alone starts nothing.
+    private static void outStaysOutWhenTheProgramGrows() {
+        TraceFrontEnd t = Due.markedIn(TraceFrontEnd.OUT);
+        for (int i = 2; i < 24; i++) {
+            t.emit(TraceFrontEnd.ADDI, 1, 1, 1);
+        }
+        Due.due("out, then emit: run(150)", t.run(150), 0);
+        Due.stillMarkedIn(TraceFrontEnd.OUT, "out, then emit, then run", t);
     }
 }

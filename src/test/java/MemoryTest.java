@@ -34,26 +34,26 @@ public final class MemoryTest {
 
     // A cell's number is not masked here, as an address in a LOAD or STORE is.
     private static void refusesOutside() {
-        TraceFrontEnd t = new TraceFrontEnd();
-        Due.mark(t);
-        for (int cell : OUTSIDE) {
-            Due.due("setMemory(" + cell + ", 5)", t.setMemory(cell, 5), false);
-            Due.due("memory(" + cell + ")", t.memory(cell), 0);
+        for (int status : Due.STATUSES) {
+            TraceFrontEnd t = Due.markedIn(status);
+            for (int cell : OUTSIDE) {
+                Due.due("setMemory(" + cell + ", 5)", t.setMemory(cell, 5), false);
+                Due.due("memory(" + cell + ")", t.memory(cell), 0);
+            }
+            Due.stillMarkedIn(status, "refused setMemory", t);
         }
-        Due.stillMarked("refused setMemory", t);
     }
 
     private static void worksInEveryStatus() {
-        TraceFrontEnd t = new TraceFrontEnd();
-        t.run(1);
-        Due.due("out: setMemory(0, 4)", t.setMemory(0, 4), true);
-        Due.due("out: memory(0)", t.memory(0), 4);
-        Due.stands("out: setMemory", t, 0, TraceFrontEnd.OUT);
-        t.restart();
-        t.emit(TraceFrontEnd.HALT, 0, 0, 0);
-        t.run(1);
-        Due.due("halted: setMemory(0, 5)", t.setMemory(0, 5), true);
-        Due.due("halted: memory(0)", t.memory(0), 5);
-        Due.stands("halted: setMemory", t, 0, TraceFrontEnd.HALTED);
+        int last = 15;
+        for (int status : Due.STATUSES) {
+            TraceFrontEnd t = Due.markedIn(status);
+            for (int cell : new int[] {0, last}) {
+                Due.due("setMemory(" + cell + ", 4) in status " + status, t.setMemory(cell, 4), true);
+                Due.due("memory(" + cell + ") in status " + status, t.memory(cell), 4);
+                t.setMemory(cell, 200 + cell);
+            }
+            Due.stillMarkedIn(status, "setMemory", t);
+        }
     }
 }

@@ -8,7 +8,7 @@ import java.util.function.LongSupplier;
  */
 public final class ModelTest {
     private static final int OBJECTS = 3000;
-    private static final int CALLS = 500;
+    private static final int CALLS = 512;
     private static final int[] EDGES = {
         0, 1, -1, 2, 7, 8, 10, 11, 15, 16, 22, 23, 24, 25, 149, 150, 151, -16, Integer.MIN_VALUE, Integer.MAX_VALUE};
 

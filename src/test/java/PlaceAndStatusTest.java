@@ -1,9 +1,19 @@
+import java.util.LinkedHashMap;
+import java.util.Map;
+import java.util.function.Consumer;
+
 /** Promises 10 and 11: place and status. */
 public final class PlaceAndStatusTest {
+    private static final Map<String, Consumer<TraceFrontEnd>> MOVE_NOTHING = new LinkedHashMap<>();
+
     public static void main(String[] args) {
         placeFollowsEachStep();
         statusFollowsEachStep();
         askingChangesNothing();
+        listRefusedCalls();
+        listAcceptedCalls();
+        whatMovesNothing();
+        restartMoves();
         Due.finish();
     }
 
@@ -47,5 +57,62 @@ public final class PlaceAndStatusTest {
         }
         Due.stillMarked("asked again", t);
         Due.due("asked again: run(150)", t.run(150), 1);
+    }
+
+    private static void listRefusedCalls() {
+        MOVE_NOTHING.put("emit(11)", t -> t.emit(11, 0, 0, 0));
+        MOVE_NOTHING.put("emit(-1)", t -> t.emit(-1, 0, 0, 0));
+        MOVE_NOTHING.put("emit(ADD, 8)", t -> t.emit(TraceFrontEnd.ADD, 8, 0, 0));
+        MOVE_NOTHING.put("emit(JMP, 24)", t -> t.emit(TraceFrontEnd.JMP, 24, 0, 0));
+        MOVE_NOTHING.put("emit until it is FULL", t -> {
+            for (int i = 0; i < 25; i++) {
+                t.emit(TraceFrontEnd.JMP, 0, 0, 0);
+            }
+        });
+        MOVE_NOTHING.put("amend(-1)", t -> t.amend(-1, 0));
+        MOVE_NOTHING.put("amend(2)", t -> t.amend(2, 0));
+        MOVE_NOTHING.put("amend of HALT", t -> t.amend(1, 0));
+        MOVE_NOTHING.put("amend to 24", t -> t.amend(0, 24));
+        MOVE_NOTHING.put("setRegister(8)", t -> t.setRegister(8, 3));
+        MOVE_NOTHING.put("setRegister(-1)", t -> t.setRegister(-1, 3));
+        MOVE_NOTHING.put("setMemory(16)", t -> t.setMemory(16, 3));
+        MOVE_NOTHING.put("setMemory(-1)", t -> t.setMemory(-1, 3));
+    }
+
+    private static void listAcceptedCalls() {
+        MOVE_NOTHING.put("emit(HALT)", t -> t.emit(TraceFrontEnd.HALT, 0, 0, 0));
+        MOVE_NOTHING.put("emit(JMP)", t -> t.emit(TraceFrontEnd.JMP, 0, 0, 0));
+        MOVE_NOTHING.put("amend to 0", t -> t.amend(0, 0));
+        MOVE_NOTHING.put("amend to 23", t -> t.amend(0, 23));
+        MOVE_NOTHING.put("run(0)", t -> t.run(0));
+        MOVE_NOTHING.put("run(-1)", t -> t.run(-1));
+        MOVE_NOTHING.put("run(MIN)", t -> t.run(Integer.MIN_VALUE));
+        MOVE_NOTHING.put("register(0)", t -> t.register(0));
+        MOVE_NOTHING.put("register(8)", t -> t.register(8));
+        MOVE_NOTHING.put("memory(0)", t -> t.memory(0));
+        MOVE_NOTHING.put("memory(16)", t -> t.memory(16));
+        MOVE_NOTHING.put("setRegister(0, 0)", t -> t.setRegister(0, 0));
+        MOVE_NOTHING.put("setMemory(0, 0)", t -> t.setMemory(0, 0));
+    }
+
+    private static void whatMovesNothing() {
+        for (int status : Due.STATUSES) {
+            MOVE_NOTHING.forEach((name, call) -> {
+                TraceFrontEnd t = Due.markedIn(status);
+                call.accept(t);
+                Due.stands(name + " in status " + status, t, Due.placeIn(status), status);
+            });
+        }
+    }
+
+    private static void restartMoves() {
+        for (int status : Due.STATUSES) {
+            TraceFrontEnd t = Due.markedIn(status);
+            t.restart();
+            Due.stands("restart in status " + status, t, 0, TraceFrontEnd.RUNNING);
+            t = Due.markedIn(status);
+            t.clear();
+            Due.stands("clear in status " + status, t, 0, TraceFrontEnd.RUNNING);
+        }
     }
 }

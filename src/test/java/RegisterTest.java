@@ -33,26 +33,26 @@ public final class RegisterTest {
     }
 
     private static void refusesOutside() {
-        TraceFrontEnd t = new TraceFrontEnd();
-        Due.mark(t);
-        for (int r : OUTSIDE) {
-            Due.due("setRegister(" + r + ", 5)", t.setRegister(r, 5), false);
-            Due.due("register(" + r + ")", t.register(r), 0);
+        for (int status : Due.STATUSES) {
+            TraceFrontEnd t = Due.markedIn(status);
+            for (int r : OUTSIDE) {
+                Due.due("setRegister(" + r + ", 5)", t.setRegister(r, 5), false);
+                Due.due("register(" + r + ")", t.register(r), 0);
+            }
+            Due.stillMarkedIn(status, "refused setRegister", t);
         }
-        Due.stillMarked("refused setRegister", t);
     }
 
     private static void worksInEveryStatus() {
-        TraceFrontEnd t = new TraceFrontEnd();
-        t.run(1);
-        Due.due("out: setRegister(0, 4)", t.setRegister(0, 4), true);
-        Due.due("out: register(0)", t.register(0), 4);
-        Due.stands("out: setRegister", t, 0, TraceFrontEnd.OUT);
-        t.restart();
-        t.emit(TraceFrontEnd.HALT, 0, 0, 0);
-        t.run(1);
-        Due.due("halted: setRegister(0, 5)", t.setRegister(0, 5), true);
-        Due.due("halted: register(0)", t.register(0), 5);
-        Due.stands("halted: setRegister", t, 0, TraceFrontEnd.HALTED);
+        int last = 7;
+        for (int status : Due.STATUSES) {
+            TraceFrontEnd t = Due.markedIn(status);
+            for (int r : new int[] {0, last}) {
+                Due.due("setRegister(" + r + ", 4) in status " + status, t.setRegister(r, 4), true);
+                Due.due("register(" + r + ") in status " + status, t.register(r), 4);
+                t.setRegister(r, 100 + r);
+            }
+            Due.stillMarkedIn(status, "setRegister", t);
+        }
     }
 }

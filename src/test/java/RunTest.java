@@ -6,14 +6,24 @@ public final class RunTest {
     public static void main(String[] args) {
         arithmetic();
         targetsAmongSources();
+        everyRegister();
         addNumber();
+        addNumberWraps();
+        everyCell();
         loads();
         stores();
         branches();
+        branchesAtTheLastPlace();
         jumps();
         halts();
+        haltsAtEachPlace();
         countIsClamped();
+        haltsInTheLastTurn();
+        runsOutInTheLastTurn();
+        runsOutOfAnEmptyProgram();
         runsOut();
+        runsOutAtEachTarget();
+        stoppedAlready();
         goesOnWhereItStood();
         unusedOperandsPlayNoPart();
         Due.finish();
@@ -71,6 +81,32 @@ public final class RunTest {
         return t.register(x);
     }
 
+    /** Each register in each operand's part, on a marked machine. */
+    private static void everyRegister() {
+        for (int x = 0; x < 8; x++) {
+            for (int y = 0; y < 8; y++) {
+                for (int z = 0; z < 8; z++) {
+                    leaves(TraceFrontEnd.ADD, x, y, z, 200 + y + z);
+                    leaves(TraceFrontEnd.SUB, x, y, z, y - z);
+                    leaves(TraceFrontEnd.XOR, x, y, z, 100 + y ^ 100 + z);
+                    leaves(TraceFrontEnd.LESS, x, y, z, y < z ? 1 : 0);
+                }
+                leaves(TraceFrontEnd.ADDI, x, y, 1000, 1100 + y);
+            }
+        }
+    }
+
+    private static void leaves(int op, int x, int y, int z, int want) {
+        TraceFrontEnd t = new TraceFrontEnd();
+        t.emit(op, x, y, z);
+        Due.mark(t);
+        t.run(1);
+        String call = "op " + op + ", " + x + ", " + y + ", " + z;
+        Due.due(call + ": register(" + x + ")", t.register(x), want);
+        t.setRegister(x, 100 + x);
+        Due.stillMarked(call, t);
+    }
+
     private static void addNumber() {
         for (int n : new int[] {0, 1, -1, 7, 8, 100, MIN, MAX}) {
             TraceFrontEnd t = new TraceFrontEnd();
@@ -80,6 +116,46 @@ public final class RunTest {
             Due.due("ADDI " + n + ": run(2)", t.run(2), 2);
             Due.registersAre("ADDI " + n, t, 100, 102 + n, 102, 103, 104, 105, 106, 107 + n);
         }
+    }
+
+    private static void addNumberWraps() {
+        int[][] sums = {{MAX, 1, MIN}, {MIN, -1, MAX}, {MAX, MAX, -2}, {MIN, MIN, 0}, {-1, MIN, MAX}, {1, MAX, MIN}};
+        for (int[] s : sums) {
+            TraceFrontEnd t = new TraceFrontEnd();
+            t.emit(TraceFrontEnd.ADDI, 1, 2, s[1]);
+            t.setRegister(2, s[0]);
+            t.run(1);
+            Due.due("ADDI of " + s[0] + " and " + s[1], t.register(1), s[2]);
+        }
+    }
+
+    /** Each cell by the number n and by register y, through each register. */
+    private static void everyCell() {
+        for (int cell = 0; cell < 16; cell++) {
+            for (int r = 0; r < 8; r++) {
+                loadsAndStores(cell, r, 0, cell);
+                loadsAndStores(cell, r, cell, 0);
+                loadsAndStores(cell, r, cell + 16, -32);
+            }
+        }
+    }
+
+    private static void loadsAndStores(int cell, int r, int y, int n) {
+        int other = (r + 1) % 8;
+        TraceFrontEnd t = new TraceFrontEnd();
+        t.emit(TraceFrontEnd.LOAD, other, r, n);
+        t.emit(TraceFrontEnd.ADDI, other, other, 1000);
+        t.emit(TraceFrontEnd.STORE, other, r, n);
+        Due.mark(t);
+        t.setRegister(r, y);
+        t.run(3);
+        String call = "register " + r + " = " + y + ", n = " + n;
+        Due.due(call + ": register(" + other + ")", t.register(other), 1200 + cell);
+        Due.due(call + ": memory(" + cell + ")", t.memory(cell), 1200 + cell);
+        t.setRegister(r, 100 + r);
+        t.setRegister(other, 100 + other);
+        t.setMemory(cell, 200 + cell);
+        Due.stillMarked(call, t);
     }
 
     /** Register y, n, and the cell that they name. */
@@ -167,6 +243,33 @@ public final class RunTest {
         }
     }
 
+    private static TraceFrontEnd atTheLastPlace(int op, int x, int y) {
+        TraceFrontEnd t = new TraceFrontEnd();
+        t.emit(TraceFrontEnd.JMP, 23, 0, 0);
+        for (int i = 1; i < 23; i++) {
+            t.emit(TraceFrontEnd.ADDI, 1, 1, 1);
+        }
+        t.emit(op, x, y, 0);
+        Due.due("to the last place: run(1)", t.run(1), 1);
+        return t;
+    }
+
+    private static void branchesAtTheLastPlace() {
+        for (int op = TraceFrontEnd.BZ; op <= TraceFrontEnd.BN; op++) {
+            TraceFrontEnd t = atTheLastPlace(op, 3, 0);
+            t.setRegister(3, 1);
+            Due.due("op " + op + " at 23, not taken: run(1)", t.run(1), 1);
+            Due.stands("op " + op + " at 23, not taken", t, 24, TraceFrontEnd.RUNNING);
+            Due.due("op " + op + " at 23, not taken: run(1) again", t.run(1), 0);
+            Due.stands("op " + op + " at 23, not taken, run again", t, 24, TraceFrontEnd.OUT);
+
+            t = atTheLastPlace(op, 3, 0);
+            t.setRegister(3, op == TraceFrontEnd.BZ ? 0 : -1);
+            Due.due("op " + op + " at 23, taken: run(1)", t.run(1), 1);
+            Due.stands("op " + op + " at 23, taken", t, 0, TraceFrontEnd.RUNNING);
+        }
+    }
+
     private static void jumps() {
         for (int target = 0; target < 24; target++) {
             TraceFrontEnd t = new TraceFrontEnd();
@@ -192,6 +295,18 @@ public final class RunTest {
         Due.stillMarked("HALT", t);
     }
 
+    private static void haltsAtEachPlace() {
+        for (int place = 0; place < 24; place++) {
+            TraceFrontEnd t = new TraceFrontEnd();
+            for (int i = 0; i < place; i++) {
+                t.emit(TraceFrontEnd.ADDI, 1, 1, 1);
+            }
+            t.emit(TraceFrontEnd.HALT, 0, 0, 0);
+            Due.due("HALT at " + place + ": run(150)", t.run(150), place + 1);
+            Due.stands("HALT at " + place, t, place, TraceFrontEnd.HALTED);
+        }
+    }
+
     private static void countIsClamped() {
         int[][] wanted = {{MIN, 0}, {-1, 0}, {0, 0}, {1, 1}, {2, 2}, {149, 149}, {150, 150}, {151, 150}, {MAX, 150}};
         for (int[] w : wanted) {
@@ -204,26 +319,96 @@ public final class RunTest {
         }
     }
 
+    /** Executes before + 149 instructions, the last of which goes to the number after this program's last. */
+    private static TraceFrontEnd countdown(int before) {
+        TraceFrontEnd t = new TraceFrontEnd();
+        for (int i = 0; i < before; i++) {
+            t.emit(TraceFrontEnd.ADDI, 2, 2, 1);
+        }
+        t.emit(TraceFrontEnd.ADDI, 1, 1, -1);
+        t.emit(TraceFrontEnd.BZ, 1, before + 3, 0);
+        t.emit(TraceFrontEnd.JMP, before, 0, 0);
+        t.setRegister(1, 50);
+        return t;
+    }
+
+    private static void haltsInTheLastTurn() {
+        for (int n : new int[] {150, 151, MAX}) {
+            TraceFrontEnd t = countdown(0);
+            t.emit(TraceFrontEnd.HALT, 0, 0, 0);
+            Due.due("HALT is the 150th: run(" + n + ")", t.run(n), 150);
+            Due.stands("HALT is the 150th", t, 3, TraceFrontEnd.HALTED);
+
+            t = countdown(1);
+            t.emit(TraceFrontEnd.HALT, 0, 0, 0);
+            Due.due("HALT is the 151st: run(" + n + ")", t.run(n), 150);
+            Due.stands("HALT is the 151st", t, 4, TraceFrontEnd.RUNNING);
+            Due.due("HALT is next: run(" + n + ")", t.run(n), 1);
+            Due.stands("HALT was next", t, 4, TraceFrontEnd.HALTED);
+        }
+    }
+
+    // Finding no instruction takes one of the turns, though it does not count as an instruction.
+    private static void runsOutInTheLastTurn() {
+        for (int n : new int[] {150, 151, MAX}) {
+            TraceFrontEnd t = countdown(0);
+            Due.due("out in the 150th turn: run(" + n + ")", t.run(n), 149);
+            Due.stands("out in the 150th turn", t, 3, TraceFrontEnd.OUT);
+
+            t = countdown(1);
+            Due.due("out in the 151st turn: run(" + n + ")", t.run(n), 150);
+            Due.stands("out in the 151st turn", t, 4, TraceFrontEnd.RUNNING);
+            Due.due("out in the next turn: run(" + n + ")", t.run(n), 0);
+            Due.stands("out in the next turn", t, 4, TraceFrontEnd.OUT);
+        }
+    }
+
+    private static void runsOutOfAnEmptyProgram() {
+        for (int n : new int[] {MIN, -1, 0, 1, 2, 149, 150, 151, MAX}) {
+            TraceFrontEnd t = new TraceFrontEnd();
+            Due.mark(t);
+            Due.due("empty: run(" + n + ")", t.run(n), 0);
+            Due.stands("empty: run(" + n + ")", t, 0, n > 0 ? TraceFrontEnd.OUT : TraceFrontEnd.RUNNING);
+            Due.stillMarked("empty: run(" + n + ")", t);
+        }
+    }
+
     private static void runsOut() {
         TraceFrontEnd t = new TraceFrontEnd();
-        Due.due("empty: run(0)", t.run(0), 0);
-        Due.stands("empty: run(0)", t, 0, TraceFrontEnd.RUNNING);
-        Due.due("empty: run(-1)", t.run(-1), 0);
-        Due.stands("empty: run(-1)", t, 0, TraceFrontEnd.RUNNING);
-        Due.due("empty: run(1)", t.run(1), 0);
-        Due.stands("empty: run(1)", t, 0, TraceFrontEnd.OUT);
-
-        // Finding no instruction takes a turn of its own: the last instruction alone leaves RUNNING.
-        t = new TraceFrontEnd();
         t.emit(TraceFrontEnd.ADDI, 1, 1, 1);
         t.emit(TraceFrontEnd.ADDI, 1, 1, 1);
         Due.due("two instructions: run(2)", t.run(2), 2);
         Due.stands("two instructions: run(2)", t, 2, TraceFrontEnd.RUNNING);
-        Due.due("two instructions: run(1)", t.run(1), 0);
-        Due.stands("two instructions, out", t, 2, TraceFrontEnd.OUT);
-        t.emit(TraceFrontEnd.ADDI, 1, 1, 1);
-        Due.due("out, then emit: run(150)", t.run(150), 0);
-        Due.due("out, then emit: register(1)", t.register(1), 2);
+        for (int n : new int[] {MIN, -1, 0}) {
+            Due.due("two instructions, then run(" + n + ")", t.run(n), 0);
+            Due.stands("two instructions, then run(" + n + ")", t, 2, TraceFrontEnd.RUNNING);
+        }
+        Due.due("two instructions, then run(1)", t.run(1), 0);
+        Due.stands("two instructions, then run(1)", t, 2, TraceFrontEnd.OUT);
+
+        t.restart();
+        Due.due("two instructions: run(3)", t.run(3), 2);
+        Due.stands("two instructions: run(3)", t, 2, TraceFrontEnd.OUT);
+    }
+
+    private static void runsOutAtEachTarget() {
+        for (int target = 1; target < 24; target++) {
+            TraceFrontEnd t = new TraceFrontEnd();
+            t.emit(TraceFrontEnd.JMP, target, 0, 0);
+            Due.due("JMP " + target + " alone: run(150)", t.run(150), 1);
+            Due.stands("JMP " + target + " alone", t, target, TraceFrontEnd.OUT);
+        }
+    }
+
+    private static void stoppedAlready() {
+        for (int status : new int[] {TraceFrontEnd.HALTED, TraceFrontEnd.OUT}) {
+            TraceFrontEnd t = Due.markedIn(status);
+            for (int n : new int[] {MIN, -1, 0, 1, 149, 150, 151, MAX}) {
+                Due.due("run(" + n + ") in status " + status, t.run(n), 0);
+                Due.stands("run(" + n + ") in status " + status, t, Due.placeIn(status), status);
+            }
+            Due.stillMarkedIn(status, "run", t);
+        }
     }
 
     private static void goesOnWhereItStood() {
