@@ -9,6 +9,8 @@ public final class AmendTest {
         numbersTakeEffect();
         targets();
         targetsTakeEffect();
+        numbersTakeEffectInALoop();
+        targetsTakeEffectInALoop();
         nothingToAmend();
         noInstruction();
         noInstructionInAnEmptyProgram();
@@ -98,6 +100,43 @@ public final class AmendTest {
             t.amend(0, 9);
             t.run(1);
             Due.due("op " + op + ", amended, is not taken: place()", t.place(), 1);
+        }
+    }
+
+    // What has been executed many times is what a trace would hold: it must be read anew, without a restart too.
+    private static void numbersTakeEffectInALoop() {
+        TraceFrontEnd t = new TraceFrontEnd();
+        t.emit(TraceFrontEnd.ADDI, 1, 2, 5);
+        t.emit(TraceFrontEnd.LOAD, 3, 0, 5);
+        t.emit(TraceFrontEnd.STORE, 1, 0, 6);
+        t.emit(TraceFrontEnd.JMP, 0, 0, 0);
+        Due.mark(t);
+        t.setRegister(0, 0);
+        t.run(148);
+        Due.registersAre("before amend in a loop", t, 0, 107, 102, 205, 104, 105, 106, 107);
+        for (int n = 7; n < 12; n++) {
+            for (int i = 0; i < 3; i++) {
+                Due.due("in a loop: amend(" + i + ", " + n + ")", t.amend(i, n), i);
+            }
+            Due.due("amended in a loop to " + n + ": run(4)", t.run(4), 4);
+            Due.registersAre("amended in a loop to " + n, t, 0, 102 + n, 102, 200 + n, 104, 105, 106, 107);
+            Due.due("amended in a loop: memory(" + n + ")", t.memory(n), 102 + n);
+        }
+        Due.due("before amend in a loop: memory(6)", t.memory(6), 107);
+        Due.due("after amend in a loop: memory(12)", t.memory(12), 212);
+    }
+
+    private static void targetsTakeEffectInALoop() {
+        for (int op = TraceFrontEnd.BZ; op <= TraceFrontEnd.JMP; op++) {
+            for (int target = 1; target < 24; target++) {
+                TraceFrontEnd t = jumper(op, 0);
+                Due.due("op " + op + " to itself: run(150)", t.run(150), 150);
+                Due.due("op " + op + " to itself: amend(0, 24)", t.amend(0, 24), TraceFrontEnd.BAD);
+                Due.due("op " + op + " to itself, not amended: run(150)", t.run(150), 150);
+                Due.due("op " + op + " to itself: amend(0, " + target + ")", t.amend(0, target), 0);
+                Due.due("op " + op + " amended in a loop: run(150)", t.run(150), 1);
+                Due.stands("op " + op + " amended in a loop to " + target, t, target, TraceFrontEnd.OUT);
+            }
         }
     }
 
